@@ -51,8 +51,24 @@ public final class FaceTest {
                 Check.report("two methods bear the name " + m.getName());
             }
         }
+        for (Class<?> inside : StateKeeper.class.getDeclaredClasses()) {
+            classInside(inside, names);
+        }
         Check.due("the face", new TreeSet<>(Arrays.asList(DUE)).toString(), got.toString());
         Check.end();
+    }
+
+    private static void classInside(Class<?> inside, TreeSet<String> names) {
+        int modifiers = inside.getModifiers();
+        if (!Modifier.isStatic(modifiers) || Modifier.isPublic(modifiers)
+                || Modifier.isProtected(modifiers)) {
+            Check.report(inside.getName() + " is not static and private or package-visible");
+        }
+        for (Method m : inside.getDeclaredMethods()) {
+            if (names.contains(m.getName())) {
+                Check.report(inside.getName() + " has a method with an outer one's name: " + m.getName());
+            }
+        }
     }
 
     private static void addUnlessPrivate(TreeSet<String> got, int modifiers, String text) {

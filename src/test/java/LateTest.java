@@ -80,6 +80,9 @@ public final class LateTest {
         Check.due("the cell waits", 4f, x.cell(0));
         x.step(1);
         Check.due("the cell then", 8f, x.cell(0));
+        // No snapshot of step 4: a late input of T must not step from that of 3.
+        Check.due("late(4) at step 4", 0, x.late(4, 0, 1, 1f));
+        Check.due("still no step was done again", 4, x.count(6));
     }
 
     private static void fromHighestSnapshotNotAbove() {
