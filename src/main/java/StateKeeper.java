@@ -236,17 +236,13 @@ public final class StateKeeper {
 
     private void doSteps(int n) {
         for (int done = 0; done < n; done++) {
-            doOneStep();
-        }
-    }
-
-    private void doOneStep() {
-        inputRecord.putIn(present, cells);
-        driftList.flow(cells);
-        present++;
-        stepsDone++;
-        if (interval > 0 && present % interval == 0) {
-            keepPresent();
+            inputRecord.putIn(present, cells);
+            driftList.flow(cells);
+            present++;
+            stepsDone++;
+            if (interval > 0 && present % interval == 0) {
+                keepPresent();
+            }
         }
     }
 
@@ -468,19 +464,19 @@ public final class StateKeeper {
 
         /** Whether the lowest had to be dropped for it. */
         private boolean take(int step, float[] cells) {
-            int k = find(step);
-            boolean isNew = k == NONE;
+            // None is of a step above T, so that only the last can be of this one.
+            boolean isNew = size == 0 || stepOf(size - 1) != step;
             boolean dropsLowest = isNew && size == MOST_SNAPSHOTS;
             if (dropsLowest) {
                 first = slot(1);
                 size--;
             }
             if (isNew) {
-                k = size;
                 size++;
             }
-            steps[slot(k)] = step;
-            System.arraycopy(cells, 0, row(k), 0, cells.length);
+            int last = slot(size - 1);
+            steps[last] = step;
+            System.arraycopy(cells, 0, rows[last], 0, cells.length);
             return dropsLowest;
         }
 

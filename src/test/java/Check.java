@@ -1,4 +1,5 @@
 import java.util.function.Consumer;
+import java.util.function.Supplier;
 
 /** Counts and prints the answers that are not as due. */
 final class Check {
@@ -39,17 +40,37 @@ final class Check {
     static void dueThrow(String call, Class<? extends RuntimeException> want, Call run) {
         Class<?> got = thrownBy(run);
         if (got != want) {
-            report(call + " threw " + (got == null ? "nothing" : got.getName())
-                    + ", due is " + want.getName());
+            report(call + " threw " + name(got) + ", due is " + name(want));
         }
     }
 
-    /** As dueThrow, and the call changes nothing that can be seen. */
-    static void refused(StateKeeper x, String call, Class<? extends RuntimeException> want,
+    /** As dueThrow, and the call changes nothing: neither what is seen nor what comes of it. */
+    static void refused(Supplier<StateKeeper> world, String call,
+            Class<? extends RuntimeException> want, Consumer<StateKeeper> run) {
+        StateKeeper one = world.get();
+        dueThrow(call, want, () -> run.accept(one));
+        Supplier<StateKeeper> behind = then(world, x -> thrownBy(() -> run.accept(x)));
+        due(call + ": the state behind it", Seen.of(world), Seen.of(behind));
+        due(call + ": the state two steps on", Seen.of(then(world, Check::goOn)),
+                Seen.of(then(behind, Check::goOn)));
+        due(call + ": the state from the lowest snapshot on",
+                Seen.of(then(world, Check::beginAgain)), Seen.of(then(behind, Check::beginAgain)));
+    }
+
+    /** In each of the worlds, however full it is: what is wrong with the call itself comes first. */
+    static void refusedInAll(String call, Class<? extends RuntimeException> want,
             Consumer<StateKeeper> run) {
-        String before = seen(x);
-        dueThrow(call, want, () -> run.accept(x));
-        due(call + ": the state behind it", before, seen(x));
+        for (World world : World.values()) {
+            refused(world, world + ": " + call, want, run);
+        }
+    }
+
+    static Supplier<StateKeeper> then(Supplier<StateKeeper> world, Consumer<StateKeeper> more) {
+        return () -> {
+            StateKeeper x = world.get();
+            more.accept(x);
+            return x;
+        };
     }
 
     static Class<?> thrownBy(Call run) {
@@ -59,46 +80,6 @@ final class Check {
         } catch (RuntimeException e) {
             return e.getClass();
         }
-    }
-
-    /** All that the face tells of an object, EVERY too. */
-    static String seen(StateKeeper x) {
-        StringBuilder text = new StringBuilder();
-        for (int what = 0; what <= 7; what++) {
-            text.append(x.count(what)).append(' ');
-        }
-        int every = x.every(0);
-        x.every(every);
-        text.append("every ").append(every).append(" cells").append(cells(x)).append(" snapshots");
-        for (int k = 0; k < x.count(2); k++) {
-            text.append(' ').append(x.snapshot(k)).append(':');
-            for (int i = 0; i < x.count(1); i++) {
-                text.append(bits(x.kept(x.snapshot(k), i)));
-            }
-        }
-        return text.append(" record").append(record(x)).toString();
-    }
-
-    static String cells(StateKeeper x) {
-        StringBuilder text = new StringBuilder();
-        for (int i = 0; i < x.count(1); i++) {
-            text.append(bits(x.cell(i)));
-        }
-        return text.toString();
-    }
-
-    /** The inputs in the record, of all steps up to some that lie behind T. */
-    static String record(StateKeeper x) {
-        StringBuilder text = new StringBuilder();
-        int left = x.count(3);
-        for (int step = 0; left > 0 && step <= x.count(0) + 200; step++) {
-            for (int k = 0; hasInput(x, step, k); k++) {
-                text.append(' ').append(step).append('/').append(x.record(step, k, 0)).append('/')
-                        .append(x.record(step, k, 1)).append('/').append(x.recorded(step, k));
-                left--;
-            }
-        }
-        return text.append(" left ").append(left).toString();
     }
 
     static void end() {
@@ -113,11 +94,16 @@ final class Check {
         System.out.println(text);
     }
 
-    private static boolean hasInput(StateKeeper x, int step, int k) {
-        return thrownBy(() -> x.record(step, k, 0)) == null;
+    private static void goOn(StateKeeper x) {
+        x.step(2);
     }
 
-    private static String bits(float v) {
-        return " " + Integer.toHexString(Float.floatToRawIntBits(v));
+    private static void beginAgain(StateKeeper x) {
+        x.back(x.snapshot(0));
+        x.step(2);
+    }
+
+    private static String name(Class<?> thrown) {
+        return thrown == null ? "nothing" : thrown.getName();
     }
 }

@@ -1,3 +1,5 @@
+import java.util.function.Supplier;
+
 /** Promise 10: late. */
 public final class LateTest {
     public static void main(String[] args) {
@@ -7,23 +9,20 @@ public final class LateTest {
         fromHighestSnapshotNotAbove();
         dropsLaterSnapshots();
         dropsRecordWhileSteppingAgain();
-        refused();
-        limit();
         Check.end();
     }
 
     private static void asIfInTime() {
         for (int step = 0; step <= 40; step++) {
-            StateKeeper inTime = world();
-            StateKeeper afterwards = world();
-            run(inTime, step, true);
-            run(afterwards, step, false);
-            afterwards.late(step, 2, 1, 17.3f);
-            Check.due("cells with a late input of step " + step, Check.cells(inTime),
-                    Check.cells(afterwards));
-            Check.due("record with a late input of step " + step, Check.record(inTime),
-                    Check.record(afterwards));
-            Check.due("T", 40, afterwards.count(0));
+            int s = step;
+            Supplier<StateKeeper> inTime = Check.then(LateTest::world, x -> run(x, s, true));
+            Supplier<StateKeeper> afterwards = Check.then(LateTest::world, x -> {
+                run(x, s, false);
+                x.late(s, 2, 1, 17.3f);
+            });
+            Check.due("cells, snapshots and record with a late input of step " + step,
+                    Seen.standingOf(inTime), Seen.standingOf(afterwards));
+            Check.due("T", 40, afterwards.get().count(0));
         }
     }
 
@@ -133,45 +132,6 @@ public final class LateTest {
         Check.due("the record from 25 on", 15, x.count(3));
         Check.dueThrow("record(24, 0, 0)", Check.INDEX, () -> x.record(24, 0, 0));
         Check.due("recorded(25, 0)", 1f, x.recorded(25, 0));
-        Check.refused(x, "late(24)", Check.STATE, o -> o.late(24, 0, 0, 0f));
-    }
-
-    private static void refused() {
-        StateKeeper x = new StateKeeper(2);
-        x.input(0, 0, 1f);
-        x.step(4);
-        Check.refused(x, "late(0, 2)", Check.INDEX, o -> o.late(0, 2, 0, 0f));
-        Check.refused(x, "late(-1, -1)", Check.INDEX, o -> o.late(-1, -1, 9, Float.NaN));
-        Check.refused(x, "late(5)", Check.ARGUMENT, o -> o.late(5, 0, 0, 0f));
-        Check.refused(x, "late(-1)", Check.ARGUMENT, o -> o.late(-1, 0, 0, 0f));
-        Check.refused(x, "late(MIN)", Check.ARGUMENT, o -> o.late(Integer.MIN_VALUE, 0, 0, 0f));
-        Check.refused(x, "late(MAX)", Check.ARGUMENT, o -> o.late(Integer.MAX_VALUE, 0, 0, 0f));
-        for (int way : new int[] {-1, 3}) {
-            Check.refused(x, "late with way " + way, Check.ARGUMENT, o -> o.late(2, 0, way, 0f));
-        }
-        for (float v : new float[] {Math.nextUp(65536f), Math.nextDown(-65536f), Float.NaN}) {
-            Check.refused(x, "late with v " + v, Check.ARGUMENT, o -> o.late(2, 0, 0, v));
-        }
-        x.every(1);
-        x.step(20);
-        Check.due("the lowest snapshot", 9, x.snapshot(0));
-        Check.refused(x, "late(8)", Check.STATE, o -> o.late(8, 0, 0, 0f));
-        Check.refused(x, "late(0)", Check.STATE, o -> o.late(0, 0, 0, 0f));
-        Check.refused(x, "late(8) with way 3", Check.ARGUMENT, o -> o.late(8, 0, 3, 0f));
-        Check.due("late(9)", 15, x.late(9, 0, 0, 7f));
-        Check.due("cell(0)", 7f, x.cell(0));
-    }
-
-    private static void limit() {
-        StateKeeper x = new StateKeeper(2);
-        x.inputs(0, 0, 256, 1, 1f);
-        x.inputs(0, 0, 255, 1, 1f);
-        x.step(2);
-        Check.due("late input 512", 2, x.late(1, 0, 1, 1f));
-        Check.due("cell(0)", 512f, x.cell(0));
-        Check.refused(x, "late input 513", Check.STATE, o -> o.late(1, 0, 1, 1f));
-        Check.refused(x, "late input 513 of T", Check.STATE, o -> o.late(2, 0, 1, 1f));
-        Check.refused(x, "late input 513 behind T", Check.ARGUMENT, o -> o.late(3, 0, 1, 1f));
-        Check.refused(x, "late input 513 of no cell", Check.INDEX, o -> o.late(3, 2, 1, 1f));
+        Check.dueThrow("late(24)", Check.STATE, () -> x.late(24, 0, 0, 0f));
     }
 }
