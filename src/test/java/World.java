@@ -29,7 +29,7 @@ enum World implements Supplier<StateKeeper> {
         }
     },
 
-    /** T is 2; snapshots of 0 and 2; inputs of 0, 1, 2, 4 and 5, three of which lie before it. */
+    /** T is 2; snapshots of 0 and 2; inputs of 0, 1 and 2, and of 4 and 5, which are still to come. */
     WENT_BACK {
         @Override
         public StateKeeper get() {
