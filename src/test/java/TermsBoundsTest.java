@@ -70,7 +70,7 @@ public final class TermsBoundsTest {
             Check.due("drift, far beyond" + side, sign * 65536f,
                     drifted(sign * 65536f, 65536f, sign * 4f));
         }
-        Check.due("drift to itself, at the bound", 65536f, drifted(65536f, 0f, 4f));
+        Check.due("drift of nothing, at the bound", 65536f, drifted(65536f, 0f, 4f));
     }
 
     /** "each of them held": what comes next begins at the bound. */
@@ -312,6 +312,10 @@ public final class TermsBoundsTest {
         StateKeeper y = new StateKeeper(1);
         for (int k = 1; k <= 512; k++) {
             Check.due("input, call " + k, k, y.input(0, 1, 1f));
+        }
+        StateKeeper z = new StateKeeper(1);
+        for (int k = 1; k <= 512; k++) {
+            Check.due("step(64), call " + k, 64 * k, z.step(64));
         }
     }
 
