@@ -63,6 +63,9 @@ public final class TermsTest {
         Check.due("beyond it", 65536f, driftedToItself(65536f, 4f));
         Check.due("beyond it, below", -65536f, driftedToItself(-65536f, 4f));
         Check.due("from one side to the other", -65536f, driftedToItself(65536f, -4f));
+        // The cell times (1 + factor), which is 1 in floats, would leave it as it is.
+        Check.due("a product and a sum", 2f,
+                driftedToItself(Math.nextDown(2f), 1f / (1 << 24)));
     }
 
     /** "INPUTS .. belong to a step": another step does none of them. */
